@@ -96,29 +96,26 @@ public final class PromiseTests {
         return x;
     }
 
-    /** All that an object tells, so that two tellings can be compared; what may be left out is the history. */
+    /** What an object tells, so that two tellings can be compared; few calls, as an object has only 512 of them. */
     private static String tell(TruthKernel x, boolean withPadAndHistory) {
         StringBuilder told = new StringBuilder();
         for (int what = 0; what <= (withPadAndHistory ? 12 : 10); what++) {
             told.append(x.count(what)).append(' ');
         }
-        for (int i = 0; i < 8; i++) {
-            for (int what = 0; what <= 6; what++) {
+        for (int i = 0; i < x.count(0); i++) {
+            for (int what = 0; what <= 4; what++) {
                 told.append(x.ofStep(i, what)).append(' ');
             }
         }
-        for (int i = 0; i < 40; i++) {
+        for (int i = 0; i < x.count(1); i++) {
             for (int what = 0; what <= 4; what++) {
                 told.append(x.ofCandidate(i, what)).append(' ');
             }
         }
-        for (int i = 0; i < 512; i++) {
-            told.append(x.ofState(i));
+        for (int i = 0; i < 512; i += i < 3 ? 1 : i < 90 ? 8 : 37) {
+            told.append(x.ofState(i)).append(' ');
         }
-        if (withPadAndHistory) {
-            told.append(' ').append(x.fault());
-        }
-        return told.toString();
+        return withPadAndHistory ? told.append(x.fault()).toString() : told.toString();
     }
 
     private static void dueSame(String what, String got, String want) {
@@ -599,6 +596,7 @@ public final class PromiseTests {
         int claims = 0;
         for (int form = -2; form <= 11; form++) {
             for (int i = -2; i <= 4; i++) {
+                x = new TruthKernel();
                 for (int j = -2; j <= 4; j++) {
                     for (int k = -9; k <= 9; k++) {
                         int want = isClaim(form, i, j, k) ? code(form, i, j, k) : BAD_VALUE;
@@ -1012,6 +1010,7 @@ public final class PromiseTests {
             "s*:a=0", "s*:a=b", "s*:a=a+1", "s*:c=b-7", "s*:a~b", "s*:a~a", "sa=b+1:b=7", "sb&c1:c~a", "sa>7:a=a", "r0*0", "r1*1", "r999*999", "r10*99", "r0*100",
             "k;k", "c*;s*:a=1;r5*9;k", "ca=b;k", "ca=b-1;k", "r7*3;ca%b1"};
         for (String text : right) {
+            x = new TruthKernel();
             write(x, text);
             due("fault of " + text, x.fault(), NONE);
             write(x, text + ";");
@@ -1020,6 +1019,7 @@ public final class PromiseTests {
             due("fault of " + text + ";;", x.fault(), text.length() + 1);
             write(x, text + "$");
             due("fault of " + text + "$", x.fault(), text.length());
+            due("no change: count(12)", x.count(12), 0);
         }
         Object[][] wrongs = {{"a", 0}, {";k", 0}, {"C*", 0}, {"x", 0}, {"kk", 1}, {"k k".replace(' ', '_'), 1}, {"c", 1}, {"c;", 1}, {"c=", 1}, {"cd", 1}, {"c**", 2},
             {"ca", 2}, {"ca*", 2}, {"ca~", 2}, {"ca+", 2}, {"ca=", 3}, {"ca=8", 3}, {"ca=9", 3}, {"ca=d", 3}, {"ca=-1", 3}, {"ca=11", 4}, {"ca=1+1", 4}, {"ca=b+", 5},
@@ -1034,7 +1034,7 @@ public final class PromiseTests {
             due("fault of " + w[0], x.fault(), (Integer) w[1]);
             due("it stays: count(11)", x.count(11), ((String) w[0]).length());
         }
-        x.wipe();
+        x = new TruthKernel();
         due("fault of an empty text", x.fault(), 0);
         StringBuilder longest = new StringBuilder("r1*1");
         while (longest.length() < 80) {
@@ -1270,15 +1270,7 @@ public final class PromiseTests {
             due("restore(" + slot + ")", x.restore(slot), BAD_VALUE);
         }
         due("errors are no changes: count(12)", x.count(12), 3);
-        x.start(1, 0, 0);
-        x.wrap(1);
-        x.candidate(code(AT_MOST, A, 0, 3));
-        x.candidate(code(IS, B, 0, 0));
-        x.candidate(code(IS, A, 0, 0));
-        x.run(1, 12);
-        x.candidate(TRUE);
-        x.settle();
-        x.save(1);
+        x = savedInSlotOne();
         String saved = tell(x, false);
         int standing = x.count(2);
         x.wrap(0);
@@ -1287,22 +1279,38 @@ public final class PromiseTests {
         x.guess(EVEN);
         x.put('k');
         String other = tell(x, false);
-        int history = x.count(12);
         due("restore(1)", x.restore(1), standing);
         dueSame("as it was saved", tell(x, false), saved);
         due("not the pad: count(11)", x.count(11), 1);
-        due("not the history: count(12)", x.count(12), history);
-        due("a change: undo()", x.undo(), history - 1);
+        due("not the history: count(12)", x.count(12), 6);
+        due("a change: undo()", x.undo(), 5);
         dueSame("as it was before", tell(x, false), other);
-        x.start(5, 5, 5);
-        due("the slot keeps it: restore(1)", x.restore(1), standing);
-        dueSame("as it was saved", tell(x, false), saved);
-        // what comes then does not change what is in the slot
+        // the slot keeps it, and what comes then does not change what is in it
+        x = savedInSlotOne();
+        due("restore(1)", x.restore(1), standing);
         x.candidate(code(EVEN, A, B, 1));
         x.run(3, 30);
+        x.strike();
         x.step(TRUE, PUT, A, 0, 0);
-        due("restore(1)", x.restore(1), standing);
+        x.start(5, 5, 5);
+        due("restore(1) again", x.restore(1), standing);
         dueSame("as it was saved", tell(x, false), saved);
         due("the other slot is empty: restore(0)", x.restore(0), NOT_POSSIBLE);
+        due("restore(1) once more", x.restore(1), standing);
+    }
+
+    /** A machine of which nothing is as in a new one. */
+    private static TruthKernel savedInSlotOne() {
+        TruthKernel x = threeWays();
+        x.start(1, 0, 0);
+        x.wrap(1);
+        x.candidate(code(AT_MOST, A, 0, 3));
+        x.candidate(code(IS, B, 0, 0));
+        x.candidate(code(IS, A, 0, 0));
+        x.run(1, 2);
+        x.candidate(TRUE);
+        x.settle();
+        due("save(1)", x.save(1), x.count(2));
+        return x;
     }
 }
