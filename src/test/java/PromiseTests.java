@@ -262,6 +262,10 @@ public final class PromiseTests {
         due("a ninth step that is none", x.step(0, PUT, A, 0, 7), BAD_VALUE);
         due("a ninth step that is none", x.step(TRUE, PUT, A, 0, 8), BAD_VALUE);
         due("count(0)", x.count(0), 8);
+        x = new TruthKernel();
+        x.run(0, 3);
+        x.step(TRUE, PUT, B, 0, 1);
+        due("begun anew by the first step: count(4)", x.count(4), 0);
         x = counter();
         x.candidate(code(IS, A, 0, 0));
         x.run(0, 3);
@@ -302,8 +306,10 @@ public final class PromiseTests {
         due("drop(2)", x.drop(2), NO_SUCH);
         due("drop(1)", x.drop(1), 1);
         due("the first one stays: ofStep(0, 1)", x.ofStep(0, 1), COPY);
+        x.run(1, 9);
         due("drop(0)", x.drop(0), 0);
         due("count(0)", x.count(0), 0);
+        due("begun anew by the last step: count(4)", x.count(4), 0);
         due("count(12)", x.count(12), 6);
     }
 
@@ -794,6 +800,14 @@ public final class PromiseTests {
         x.step(code(IS, A, 0, 5), PUT, B, 0, 7);
         x.candidate(code(IS, B, 0, 0));
         due("a state that cannot be reached refutes it: count(10)", x.count(10), 0);
+        x = new TruthKernel();
+        x.start(1, 0, 0);
+        x.step(code(IS, A, 0, 0), PUT, B, 0, 1);
+        x.candidate(code(IS, B, 0, 0));
+        x.candidate(code(IS, C, 0, 0));
+        due("only state 0 refutes it: count(10)", x.count(10), 0);
+        due("only state 0 refutes it: proves", x.proves(TRUE), NOT_POSSIBLE);
+        due("only state 0 refutes it: strike()", x.strike(), 1);
     }
 
     private static void ofState() {
@@ -911,7 +925,20 @@ public final class PromiseTests {
         }
         want &= ~(1L << (13 + 6)) & ~(1L << (26 + 6));
         due("the highest bits", x.needless(), want | 1L << 39);
-        due("count(12)", x.count(12), 6);
+        x = new TruthKernel();
+        x.start(1, 0, 0);
+        x.candidate(code(IS, B, 0, 0));
+        x.candidate(code(IS, C, 0, 0));
+        x.candidate(code(AT_LEAST, A, 0, 1));
+        x.candidate(code(AT_MOST, A, 0, 6));
+        due("each is needed for one state, also for state 0", x.needless(), 0);
+        x = new TruthKernel();
+        x.start(7, 7, 6);
+        x.candidate(code(AT_MOST, C, 0, 6));
+        x.candidate(code(SAME, A, B, 0));
+        x.candidate(code(LESS, C, B, -1));
+        x.candidate(code(IS, A, 0, 7));
+        due("each is needed for one state, also for state 511", x.needless(), 1 + 4);
     }
 
     private static void core() {
@@ -952,6 +979,24 @@ public final class PromiseTests {
             x.candidate(k < 39 ? code(UNLIKE, k / 14, (k / 14 + 1) % 3, k % 14 < 7 ? k % 14 - 7 : k % 14 - 6) : code(IS, C, 0, 0));
         }
         due("the highest bit", x.core(code(IS, C, 0, 0)), 1L << 39);
+        // only state 0 tells that the first candidate is needed, for the claim and then for the kernel
+        x = new TruthKernel();
+        x.start(1, 0, 0);
+        x.candidate(code(AT_LEAST, A, 0, 1));
+        x.candidate(code(IS, B, 0, 0));
+        x.candidate(code(IS, C, 0, 0));
+        due("state 0 for the claim", x.core(code(AT_LEAST, A, 0, 1)), 1);
+        x.step(code(IS, A, 0, 0), PUT, B, 0, 1);
+        due("state 0 for the kernel", x.core(code(IS, B, 0, 0)), 1 + 2);
+        x = new TruthKernel();
+        x.start(1, 0, 0);
+        x.candidate(code(NOT, A, 0, 0));
+        x.candidate(code(LESS, B, C, 0));
+        x.candidate(code(LESS, C, B, 0));
+        x.candidate(code(IS, B, 0, 0));
+        // what does not hold in state 0 alone, of the states that the others allow
+        due("state 0 of those that are left", x.core(code(LESS, B, A, -1)), 1 + 8);
+        due("asked again", x.core(code(LESS, B, A, -1)), 1 + 8);
     }
 
     private static void put() {
@@ -1153,7 +1198,7 @@ public final class PromiseTests {
         promise = 27;
         TruthKernel x = new TruthKernel();
         due("undo()", x.undo(), NOT_POSSIBLE);
-        for (int change = 0; change < 11; change++) {
+        for (int change = 0; change < 12; change++) {
             TruthKernel y = threeWays();
             y.candidate(code(AT_MOST, A, 0, 3));
             y.candidate(code(NOT, B, 0, 2));
@@ -1183,6 +1228,7 @@ public final class PromiseTests {
             case 9:
                 write(x, "ca=0;s*:a=1;r3*4;k");
                 return x.carryOut();
+            case 10: return x.drop(0);
             default: return x.restore(0);
         }
     }
@@ -1206,6 +1252,7 @@ public final class PromiseTests {
         due("undo()", x.undo(), 0);
         due("count(6)", x.count(6), state(1, 0, 0));
         due("an undo is no change: undo()", x.undo(), NOT_POSSIBLE);
+        bringsTheWayBack();
         // also if nothing is different then
         x.strike();
         x.settle();
@@ -1217,6 +1264,37 @@ public final class PromiseTests {
         due("count(1)", x.count(1), 3);
         due("undo()", x.undo(), 3);
         due("count(1)", x.count(1), 0);
+    }
+
+    /** The order in which states were seen, and by which run, matters for candidates that come later. */
+    private static void bringsTheWayBack() {
+        TruthKernel x = new TruthKernel();
+        x.start(3, 3, 0);
+        x.step(code(AT_LEAST, A, 0, 1), COPY, A, A, -1);
+        x.run(0, 1);
+        x.run(0, 3);
+        x.candidate(code(IS, B, 0, 3));
+        x.start(0, 5, 0);
+        x.undo();
+        x.undo();
+        x.candidate(code(IS, A, 0, 3));
+        x.candidate(code(AT_LEAST, A, 0, 2));
+        int[][] due = {{code(IS, A, 0, 3), 2, state(2, 3, 0), 0}, {code(AT_LEAST, A, 0, 2), 2, state(1, 3, 0), 1}};
+        for (int i = 0; i < due.length; i++) {
+            for (int what = 0; what <= 3; what++) {
+                due("after undo ofCandidate(" + i + ", " + what + ")", x.ofCandidate(i, what), due[i][what]);
+            }
+        }
+        // a candidate that an undo takes away leaves its place to another one
+        x = new TruthKernel();
+        x.candidate(code(IS, B, 0, 0));
+        x.start(0, 1, 0);
+        x.undo();
+        x.undo();
+        due("candidate", x.candidate(code(NOT, C, 0, 1)), 0);
+        x.undo();
+        due("candidate", x.candidate(code(IS, B, 0, 0)), 0);
+        due("ofCandidate(0, 0)", x.ofCandidate(0, 0), code(IS, B, 0, 0));
     }
 
     private static void leavesThePadAndTheSlots() {
@@ -1295,8 +1373,34 @@ public final class PromiseTests {
         x.start(5, 5, 5);
         due("restore(1) again", x.restore(1), standing);
         dueSame("as it was saved", tell(x, false), saved);
+        x.undo();
+        x.undo();
+        x.undo();
+        x.undo();
+        x.undo();
+        due("restore(1) after undo", x.restore(1), standing);
+        dueSame("as it was saved", tell(x, false), saved);
         due("the other slot is empty: restore(0)", x.restore(0), NOT_POSSIBLE);
         due("restore(1) once more", x.restore(1), standing);
+            // other candidates and another way in between
+        x = new TruthKernel();
+        x.start(3, 3, 0);
+        x.step(code(AT_LEAST, A, 0, 1), COPY, A, A, -1);
+        x.candidate(code(IS, B, 0, 3));
+        x.save(0);
+        x.undo();
+        x.candidate(code(IS, C, 0, 0));
+        x.save(1);
+        due("restore(0)", x.restore(0), 1);
+        due("ofCandidate(0, 0)", x.ofCandidate(0, 0), code(IS, B, 0, 3));
+        due("restore(1)", x.restore(1), 1);
+        due("ofCandidate(0, 0)", x.ofCandidate(0, 0), code(IS, C, 0, 0));
+        x.run(0, 3);
+        x.save(1);
+        x.start(0, 0, 0);
+        x.restore(1);
+        x.candidate(code(IS, A, 0, 3));
+        due("the way is restored: ofCandidate(1, 2)", x.ofCandidate(1, 2), state(2, 3, 0));
     }
 
     /** A machine of which nothing is as in a new one. */
