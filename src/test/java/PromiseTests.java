@@ -44,6 +44,7 @@ public final class PromiseTests {
         undo();
         save();
         restore();
+        eightStepsAndFortyCandidates();
         System.out.println(asked + " answers, " + wrong + " of them wrong");
         System.exit(wrong == 0 ? 0 : 1);
     }
@@ -1416,5 +1417,90 @@ public final class PromiseTests {
         x.settle();
         due("save(1)", x.save(1), x.count(2));
         return x;
+    }
+
+    /** A machine of 8 steps, by which a goes from 0 to 7 and then b becomes 7, and 40 candidates that hold in state 0. */
+    private static TruthKernel full() {
+        TruthKernel x = new TruthKernel();
+        for (int a = 0; a < 7; a++) {
+            x.step(code(IS, A, 0, a), COPY, A, A, 1);
+        }
+        x.step(code(IS, A, 0, 7), PUT, B, 0, 7);
+        for (int i = 0; i < 16; i++) {
+            x.candidate(code(AT_MOST, i < 8 ? B : C, 0, i % 8));
+        }
+        for (int i = 0; i < 14; i++) {
+            x.candidate(code(NOT, i < 7 ? C : B, 0, 1 + i % 7));
+        }
+        x.candidate(code(EVEN, B, C, 0));
+        x.candidate(code(SUM, B, C, 0));
+        for (int k = 7; k >= 0; k--) {
+            x.candidate(code(AT_MOST, A, 0, k));
+        }
+        return x;
+    }
+
+    private static void dueFate(TruthKernel x, int candidate, int... fate) {
+        for (int what = 1; what <= 4; what++) {
+            due("full: ofCandidate(" + candidate + ", " + what + ")", x.ofCandidate(candidate, what), fate[what - 1]);
+        }
+    }
+
+    /** All rows are full, so that a step too far in one of them would be seen. */
+    private static void eightStepsAndFortyCandidates() {
+        TruthKernel x = full();
+        promise = 16;
+        due("full: count(0)", x.count(0), 8);
+        due("full: count(2)", x.count(2), 40);
+        due("full: count(8)", x.count(8), 1);
+        promise = 8;
+        due("full: run(0, 3)", x.run(0, 3), 3);
+        dueFate(x, 39, 2, state(1, 0, 0), 0, NONE);
+        dueFate(x, 37, 2, state(3, 0, 0), 0, NONE);
+        promise = 9;
+        due("full: strike()", x.strike(), 1);
+        dueFate(x, 36, 3, state(3, 0, 0), 3, 1);
+        promise = 10;
+        due("full: settle()", x.settle(), 4);
+        dueFate(x, 31, 3, state(7, 0, 0), 7, 5);
+        promise = 16;
+        int[] counts = {8, 40, 23, 4, 1, 5, 0, 0, 16, 9, 1, 0, 6};
+        for (int what = 0; what < counts.length; what++) {
+            due("full: count(" + what + ")", x.count(what), counts[what]);
+        }
+        promise = 21;
+        long standing = 1L << 7 | 0xff00L | 0x7fL << 16 | 0x3fL << 23 | 1L << 32;
+        due("full: needless()", x.needless(), standing & ~(0x3fL << 23));
+        promise = 22;
+        due("full: core of ALWAYS", x.core(TRUE), 0);
+        due("full: core of c = 0", x.core(code(IS, C, 0, 0)), 0x7fL << 16);
+        promise = 2;
+        due("full: start(1, 7, 1)", x.start(1, 7, 1), 0);
+        due("full: count(2)", x.count(2), 28);
+        dueFate(x, 39, 1, state(1, 7, 1), NONE, NONE);
+        dueFate(x, 30, 0, NONE, NONE, NONE);
+        promise = 5;
+        due("full: drop(0)", x.drop(0), 7);
+        due("full: ofStep(6, 2)", x.ofStep(6, 2), B);
+        due("full: ofStep(7, 2)", x.ofStep(7, 2), NO_SUCH);
+        promise = 27;
+        due("full: undo()", x.undo(), 5);
+        due("full: ofStep(7, 2)", x.ofStep(7, 2), B);
+        // a run that sees all the states there are
+        x = new TruthKernel();
+        x.wrap(1);
+        for (int i = 0; i < 3; i++) {
+            x.step(TRUE, COPY, i, i, 1);
+            x.step(TRUE, COPY, i, i, -1);
+        }
+        int seen = 1;
+        for (int seed = 0; seed < 150; seed++) {
+            seen += x.run(7919 * seed, 99);
+        }
+        promise = 8;
+        due("all seen: count(3)", x.count(3), seen);
+        due("all seen: count(3)", x.count(3), 512);
+        due("all seen: run(1, 99)", x.run(1, 99), 0);
+        due("all seen: count(9)", x.count(9), 512);
     }
 }
