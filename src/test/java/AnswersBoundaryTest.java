@@ -1,4 +1,4 @@
-/** The boundaries of promises 16 to 22, and of sets: a test for each sentence that names one. */
+/** The boundaries of promises 16 to 22, of numbers and of sets: a test for each sentence that names one. */
 public final class AnswersBoundaryTest extends Boundary {
     private static final int[] NO_CODES = {LOWEST, -8, -1, 0, 6, 8, 141, 150, 1296, 1299, 1349, 1350, HIGHEST};
 
@@ -40,8 +40,10 @@ public final class AnswersBoundaryTest extends Boundary {
         coreIsAKernelAsWell();
         coreProvesTheClaim();
         coreOfThoseThatStand();
+        neededForOneState();
         coreOfForty();
         coreNamesItsErrorsInOrder();
+        everythingIsNumberedFromZero();
         setsAreBitMasks();
         questionsChangeNothing();
         end();
@@ -585,6 +587,39 @@ public final class AnswersBoundaryTest extends Boundary {
         due(x.core(code(IS, B, 0, 0)), 4);
         due(x.core(code(AT_MOST, A, 0, 6)), NONE);
         due(x.core(TRUE), 0);
+        x = new Asked();
+        x.candidate(code(IS, B, 0, 1));
+        x.candidate(code(AT_MOST, A, 0, 3));
+        x.candidate(code(AT_MOST, A, 0, 2));
+        due(x.core(code(AT_MOST, A, 0, 3)), 4);
+        due(x.core(code(AT_MOST, A, 0, 4)), 4);
+        due(x.core(TRUE), 0);
+    }
+
+    private static void neededForOneState() {
+        sentence("core: .. are a kernel as well and prove the claim - in all states: 0 or 511 is enough to need a candidate.");
+        Asked x = new Asked();
+        x.start(1, 0, 0);
+        x.candidate(code(AT_LEAST, A, 0, 1));
+        x.candidate(code(IS, B, 0, 0));
+        x.candidate(code(IS, C, 0, 0));
+        for (int times = 0; times < 2; times++) {
+            due(x.core(code(LESS, B, A, -1)), 1 + 2);
+            due(x.core(code(NOT, A, 0, 0)), 1);
+        }
+        x.step(code(IS, A, 0, 0), PUT, B, 0, 1);
+        due(x.core(code(IS, B, 0, 0)), 1 + 2);
+        x = new Asked();
+        x.start(6, 7, 7);
+        x.candidate(code(AT_MOST, A, 0, 6));
+        x.candidate(code(IS, B, 0, 7));
+        x.candidate(code(IS, C, 0, 7));
+        for (int times = 0; times < 2; times++) {
+            due(x.core(code(LESS, A, B, -1)), 1 + 2);
+            due(x.core(code(NOT, A, 0, 7)), 1);
+        }
+        x.step(code(IS, A, 0, 7), PUT, B, 0, 1);
+        due(x.core(code(IS, B, 0, 7)), 1 + 2);
     }
 
     private static void coreOfForty() {
@@ -615,6 +650,21 @@ public final class AnswersBoundaryTest extends Boundary {
         x.strike();
         due(x.core(code(AT_MOST, A, 0, 6)), -6);
         due(x.core(TRUE), 0);
+    }
+
+    private static void everythingIsNumberedFromZero() {
+        sentence("Everything is numbered from 0 - steps, candidates, runs, slots; only rounds are from 1 on.");
+        Asked x = new Asked();
+        due(x.step(TRUE, COPY, A, A, 1), 0);
+        due(x.candidate(code(AT_MOST, A, 0, 1)), 0);
+        due(x.candidate(code(AT_MOST, A, 0, 6)), 1);
+        due(x.run(0, 2), 2);
+        due(x.strike(), 1);
+        dueFate(x, 0, BY_RUN, state(2, 0, 0), 0, NONE);
+        dueFate(x, 1, BY_STEP, state(6, 0, 0), 0, 1);
+        due(x.save(0), 0);
+        due(x.save(1), 0);
+        due(x.save(2), BAD_VALUE);
     }
 
     private static void setsAreBitMasks() {

@@ -1383,7 +1383,7 @@ public final class PromiseTests {
         dueSame("as it was saved", tell(x, false), saved);
         due("the other slot is empty: restore(0)", x.restore(0), NOT_POSSIBLE);
         due("restore(1) once more", x.restore(1), standing);
-            // other candidates and another way in between
+        // other candidates and another way in between
         x = new TruthKernel();
         x.start(3, 3, 0);
         x.step(code(AT_LEAST, A, 0, 1), COPY, A, A, -1);

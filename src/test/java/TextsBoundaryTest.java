@@ -51,6 +51,7 @@ public final class TextsBoundaryTest extends Boundary {
         carryOutOfARunAtItsEdges();
         carryOutOfTheForms();
         carryOutOfTheActions();
+        anOrderTellsAllOfItself();
         carryOutOfTheNinthStep();
         carryOutOfTheFortyFirstCandidate();
         carryOutOfFortyOrders();
@@ -576,6 +577,23 @@ public final class TextsBoundaryTest extends Boundary {
                 due(x.ofStep(0, what), (Integer) a[what]);
             }
             due(x.ofStep(0, 4), (Integer) a[4] + 7);
+        }
+    }
+
+    private static void anOrderTellsAllOfItself() {
+        sentence("The pad is a text .., a row of orders - an order tells nothing of the one behind it.");
+        Asked x = new Asked();
+        due(carryOut(x, "s*:a=b-3;s*:a~b;s*:c=2;s*:b=c;s*:b~c;s*:a=0"), 6);
+        int[][] steps = {{COPY, A, B, 4}, {SWAP, A, B, 7}, {PUT, C, 0, 9}, {COPY, B, C, 7}, {SWAP, B, C, 7}, {PUT, A, 0, 7}};
+        for (int i = 0; i < steps.length; i++) {
+            for (int what = 1; what <= 4; what++) {
+                due(x.ofStep(i, what), steps[i][what - 1]);
+            }
+        }
+        due(carryOut(x, "ca<b-3;ca<b;ca<2;c*;ca%c1;cb=2;cc=a"), 7);
+        int[] claims = {code(LESS, A, B, -3), code(LESS, A, B, 0), code(AT_MOST, A, 0, 2), TRUE, code(EVEN, A, C, 1), code(IS, B, 0, 2), code(SAME, C, A, 0)};
+        for (int i = 0; i < claims.length; i++) {
+            due(x.ofCandidate(i, 0), claims[i]);
         }
     }
 

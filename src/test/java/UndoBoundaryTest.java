@@ -26,6 +26,7 @@ public final class UndoBoundaryTest extends Boundary {
         undoLeavesThePad();
         undoLeavesTheSlots();
         undoBringsBackTheWay();
+        undoOfAnotherCandidate();
         undoOfAFullRow();
         changesAfterUndo();
         ordersRecordNothing();
@@ -327,15 +328,42 @@ public final class UndoBoundaryTest extends Boundary {
         due(x.undo(), 4);
         x.candidate(code(AT_LEAST, A, 0, 6));
         x.candidate(code(AT_LEAST, A, 0, 3));
+        x.candidate(code(IS, B, 0, 0));
         dueFate(x, 0, BY_RUN, state(5, 0, 0), 0, NONE);
         dueFate(x, 1, BY_RUN, state(2, 0, 0), 1, NONE);
+        dueStanding(x, 2);
         due(x.undo(), 5);
         due(x.undo(), 4);
         due(x.undo(), 3);
+        due(x.undo(), 2);
         x.candidate(code(AT_LEAST, A, 0, 3));
         dueStanding(x, 0);
         due(x.run(0, 5), 3);
         dueFate(x, 0, BY_RUN, state(2, 0, 0), 1, NONE);
+    }
+
+    private static void undoOfAnotherCandidate() {
+        sentence("undo: .. is as it was before it - in a place where there was another candidate, or another step, in between.");
+        Asked x = new Asked();
+        x.candidate(code(IS, A, 0, 0));
+        x.step(code(IS, B, 0, 0), PUT, A, 0, 1);
+        x.save(0);
+        x.undo();
+        x.undo();
+        x.candidate(code(IS, C, 0, 1));
+        x.step(code(IS, B, 0, 1), COPY, B, C, -2);
+        due(x.restore(0), 1);
+        due(x.ofCandidate(0, 0), code(IS, A, 0, 0));
+        due(x.ofStep(0, 0), code(IS, B, 0, 0));
+        due(x.ofStep(0, 4), 8);
+        due(x.undo(), 2);
+        due(x.ofCandidate(0, 0), code(IS, C, 0, 1));
+        due(x.ofStep(0, 0), code(IS, B, 0, 1));
+        due(x.ofStep(0, 1), COPY);
+        due(x.ofStep(0, 3), C);
+        due(x.ofStep(0, 4), 5);
+        due(x.candidate(code(IS, A, 0, 0)), 1);
+        due(x.candidate(code(IS, C, 0, 1)), NOT_POSSIBLE);
     }
 
     private static void undoOfAFullRow() {
